@@ -983,7 +983,7 @@ public final class NetSynthesizer {
             return found;
         }
 
-        /** The index of the separation before which k are not solvable, and which is not either; -1 if there is none. */
+        /** The index of the unsolvable separation with the place k among these, from 0; -1 if there is none. */
         int unsolvedIndex(int k) {
             int before = 0;
             for (int i = 0; i < separationCount; i++) {
