@@ -1211,8 +1211,8 @@ public final class NetSynthesizer {
             for (int m = 0; m < markingCount; m++) {
                 stateOf[m] = -1;
             }
+            // No state is given to two markings: its marking is the set of the places whose regions contain it.
             stateOf[0] = 0;
-            int taken = 1;
             for (int m = 0; m < markingCount; m++) {
                 // A marking behind the first one was found from one before it, so that its state is known here.
                 for (int e = 0; e < MAX_EVENTS; e++) {
@@ -1224,9 +1224,8 @@ public final class NetSynthesizer {
                     if (marking < 0 || state < 0) {
                         return false;
                     }
-                    if (stateOf[marking] < 0 && (taken >> state & 1) == 0) {
+                    if (stateOf[marking] < 0) {
                         stateOf[marking] = state;
-                        taken |= 1 << state;
                     }
                     if (stateOf[marking] != state) {
                         return false;

@@ -2,8 +2,9 @@ import java.util.Random;
 
 /** Compares the program with the model in runs of random calls, always the same ones. */
 public final class ModelTest {
-    private static final int RUNS = 400;
-    private static final int CALLS = 120;
+    private static final int RUNS = 800;
+    // Each of these is up to some fifty calls: an object is used for at most 512.
+    private static final int CALLS = 60;
     private static final String[] GRAPHS = {
         "0a1 1a2 2b0", "0a1 0b2 1b3 2a3", "0a1 1b2 2a3 3b0 0c2 2c0", "0a1 1a2 2a3 3a4 4a5 5a0",
         "0a1 0b2 0c3 1b4 1c5 2a4 2c6 3a5 3b6 4c7 5b7 6a7", "0a0 1b2 2c3 4d5 5e6", "0a1 2b3 4c5 6d7 8e9",
@@ -11,6 +12,7 @@ public final class ModelTest {
         "0a1 2b3 4c5 6d7 8e9 9f0 1g2 3h4", "0a1 0b1 1c2 1d2 2a3 2b3 3c0", "0a1 1b1 1c2 2b2 2d0", "9a8 8b7 7c6",
         "2c8 9c5 9a3 1h3 6g0 0a1 3d7 8a6 7a4 7e2", "9c0 9f7 8f5 5g2 2a4 8b1 9g3 0d1 1c8 9f1 9f8 4e6 4h9 1h6",
         "3f0 2b1 3e2 5f2 4b3 3c4", "3a6 5b0 2c4 3c1 4a5", "7c1 3d6 3e0 1d6 2d2 0e4 1a1 5f6 2b7",
+        "0a5 7b8 5c7 8d3 6e2 3f2 9g4 2h0 6b1 0b9 3g1", "2b4 6a5 3a4 6b0", "1a3 2c1 3c4 3b0 5b2",
     };
 
     private final Random random;

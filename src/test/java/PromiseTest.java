@@ -1,41 +1,5 @@
 /** For each promise of the document ordinary inputs, the edges that it names, and wrong inputs, worked out by hand. */
-public final class PromiseTest {
-    private static final int BAD = -1, STATE = -2, FULL = -3, NONE = -9;
-    // A diamond: a and b can occur in either order.
-    private static final String DIAMOND = "0a1 0b2 1b3 2a3";
-    // No region: the two arcs with a would have to enter or exit together.
-    private static final String CYCLE = "0a1 1a2 2b0";
-    // Its minimal regions are {0,2} and {1,3}.
-    private static final String SHORTCUT = "0a1 1b2 2a3 3b0 0c2 2c0";
-
-    private static int wrong = 0;
-    private static int promise = 0;
-    private static int tested = 0;
-
-    private static void due(String what, long got, long want) {
-        tested++;
-        if (got != want) {
-            wrong++;
-            System.out.println("promise " + promise + ": " + what + " answered " + got + ", due is " + want);
-        }
-    }
-
-    private static void write(NetSynthesizer x, String text) {
-        x.clearText();
-        for (char c : text.toCharArray()) {
-            x.type(c);
-        }
-    }
-
-    private static NetSynthesizer graph(String text) {
-        NetSynthesizer x = new NetSynthesizer();
-        write(x, text);
-        if (x.load() < 0) {
-            due("load of " + text, -1, 0);
-        }
-        return x;
-    }
-
+public final class PromiseTest extends Answers {
     /** What load() answers to a text on a graph with two states, and that a fault changes nothing but faultKind(). */
     private static void loading(String text, int answer, int fault) {
         NetSynthesizer x = graph("0a1");
@@ -51,74 +15,71 @@ public final class PromiseTest {
     }
 
     public static void main(String[] args) {
-        promise = 1;
+        about("promise 1");
         newObject();
-        promise = 2;
+        about("promise 2");
         type();
-        promise = 3;
+        about("promise 3");
         clearText();
-        promise = 4;
+        about("promise 4");
         load();
-        promise = 5;
+        about("promise 5");
         faultKind();
-        promise = 6;
+        about("promise 6");
         setStates();
-        promise = 7;
+        about("promise 7");
         addArc();
-        promise = 8;
+        about("promise 8");
         dropArc();
-        promise = 9;
+        about("promise 9");
         arc();
-        promise = 10;
+        about("promise 10");
         next();
-        promise = 11;
+        about("promise 11");
         split();
-        promise = 12;
+        about("promise 12");
         repair();
-        promise = 13;
+        about("promise 13");
         regions();
-        promise = 14;
+        about("promise 14");
         region();
-        promise = 15;
+        about("promise 15");
         crosses();
-        promise = 16;
+        about("promise 16");
         regionAround();
-        promise = 17;
+        about("promise 17");
         separations();
-        promise = 18;
+        about("promise 18");
         solver();
-        promise = 19;
+        about("promise 19");
         preventer();
-        promise = 20;
+        about("promise 20");
         unsolved();
-        promise = 21;
+        about("promise 21");
         places();
-        promise = 22;
+        about("promise 22");
         place();
-        promise = 23;
+        about("promise 23");
         netGraph();
-        promise = 24;
+        about("promise 24");
         fits();
-        promise = 25;
+        about("promise 25");
         enabled();
-        promise = 26;
+        about("promise 26");
         fire();
-        promise = 27;
+        about("promise 27");
         restart();
-        promise = 28;
+        about("promise 28");
         ifArc();
-        promise = 29;
+        about("promise 29");
         ifSplit();
-        promise = 30;
+        about("promise 30");
         undo();
-        promise = 31;
+        about("promise 31");
         count();
-        promise = 32;
+        about("promise 32");
         digest();
-        System.out.println(wrong == 0 ? tested + " answers are as due" : wrong + " answers are not as due");
-        if (wrong != 0) {
-            System.exit(1);
-        }
+        end();
     }
 
     private static void newObject() {
@@ -831,14 +792,6 @@ public final class PromiseTest {
         due("count(-1)", x.count(-1), BAD);
         // The chain is told backwards, so that one look at the arcs does not reach all.
         due("count(3)", graph("8a9 7a8 6a7 5a6 4a5 3a4 2a3 1a2 0a1").count(3), 10);
-    }
-
-    private static long sum(long... values) {
-        long h = 17341;
-        for (long v : values) {
-            h = 31 * h + v;
-        }
-        return h;
     }
 
     private static void digest() {
