@@ -61,7 +61,7 @@ class Answers {
         return x;
     }
 
-    /** Some states, each with all arcs that do not make more than a number in all; each arc goes to the last state. */
+    /** States with a number of arcs in all, eight from each state from 0 on, and all to the last state. */
     static NetSynthesizer crowd(int states, int arcs) {
         NetSynthesizer x = new NetSynthesizer();
         x.setStates(states);

@@ -1,11 +1,14 @@
+import java.util.ArrayList;
+import java.util.List;
+
 /**
  * A test for each sentence of the sections 'Promise 1' to 'Promise 32' that names a boundary case. The sentence
  * stands in the test; the answers are worked out from it by hand.
  */
 public final class BoundaryTest extends Sentences {
     // Numbers that are never in range.
-    private static final int[] WILD = {Integer.MIN_VALUE, Integer.MIN_VALUE + 1, -1025, -100, -9, -8, -2, -1, 1024, 1056,
-        65536, 1 << 30, Integer.MAX_VALUE - 1, Integer.MAX_VALUE};
+    private static final int[] WILD = {Integer.MIN_VALUE, Integer.MIN_VALUE + 1, -1025, -100, -9, -8, -2, -1, 1024,
+        1056, 65536, 1 << 30, Integer.MAX_VALUE - 1, Integer.MAX_VALUE};
     // Pairs of states with equal sums in each region: 4 and 6, 3 and 5, 0 and 2.
     private static final String THREE_PAIRS = "2b4 6a5 3a4 6b0";
 
@@ -153,8 +156,8 @@ public final class BoundaryTest extends Sentences {
         sentence("Returns the number of items; -10 minus the position of the fault if there is one (then nothing but "
             + "what faultKind() returns is changed).");
         due("load() with one item", loaded("9a9"), 1);
-        due("load() with twenty", loaded("0a1 0b1 0c1 0d1 0e1 0f1 0g1 0h1 1a1 1b1 1c1 1d1 1e1 1f1 1g1 1h1 2a1 2b1 2c1 2d1"),
-            20);
+        due("load() with twenty", loaded("0a1 0b1 0c1 0d1 0e1 0f1 0g1 0h1 1a1 1b1 1c1 1d1 1e1 1f1 1g1 1h1 2a1 2b1 "
+            + "2c1 2d1"), 20);
         due("load() with a fault at 0", loaded("x"), -10);
         due("load() with a fault at 79", loaded(" ".repeat(79) + "x"), -89);
         due("load() with a fault at 80", loaded(" ".repeat(79) + "0"), -90);
@@ -172,21 +175,36 @@ public final class BoundaryTest extends Sentences {
         String all = "0a1 0b1 0c1 0d1 0e1 0f1 0g1 0h1 9a2";
         String[] texts = {all, CYCLE, all, "0a1 1a2 2a3 3a4 4a5 5a6 6a7 7a8 8a9 0b0 0c0 0d0 0e0 0f0 0g0 0h0", all,
             THREE_PAIRS, "", DIAMOND, "2a1 1b0", SHORTCUT, "1a3 2c1 3c4 3b0 5b2", "0h1", "1h0", "3a6 5b0 2c4 3c1 4a5"};
-        for (int i = 0; i < texts.length; i++) {
-            for (int j = 0; j < texts.length; j++) {
-                NetSynthesizer x = graph(texts[i]);
+        for (String before : texts) {
+            for (String text : texts) {
+                NetSynthesizer x = graph(before);
                 x.digest();
-                write(x, texts[j]);
+                write(x, text);
                 x.load();
-                NetSynthesizer y = graph(texts[j]);
+                NetSynthesizer y = graph(text);
                 y.load();
-                due("digest() of '" + texts[j] + "' after '" + texts[i] + "'", x.digest(), y.digest());
+                due("all of '" + text + "' after '" + before + "'", answers(x).equals(answers(y)) ? 1 : 0, 1);
                 x.undo();
-                y = graph(texts[i]);
-                write(y, texts[j]);
-                due("digest() of '" + texts[i] + "' again", x.digest(), y.digest());
+                y = graph(before);
+                write(y, text);
+                due("all of '" + before + "' again", answers(x).equals(answers(y)) ? 1 : 0, 1);
             }
         }
+    }
+
+    /** What the methods answer that change nothing. */
+    private static List<Long> answers(NetSynthesizer x) {
+        List<Long> answers = new ArrayList<>();
+        answers.add(x.digest());
+        for (int s = 0; s < 10; s++) {
+            answers.add((long) x.regionAround(1 << s));
+            for (int other = 0; other < 10; other++) {
+                answers.add((long) x.solver(s, other));
+                answers.add((long) x.preventer(s, other));
+                answers.add((long) x.next(s, other));
+            }
+        }
+        return answers;
     }
 
     private static int loaded(String text) {
@@ -220,8 +238,8 @@ public final class BoundaryTest extends Sentences {
     }
 
     private static void setStates() {
-        sentence("Returns the number before; BAD if n is out of range; STATE if there is an arc from or to a state that "
-            + "there would not be any more.");
+        sentence("Returns the number before; BAD if n is out of range; STATE if there is an arc from or to a state "
+            + "that there would not be any more.");
         NetSynthesizer x = new NetSynthesizer();
         due("setStates(1) of one", x.setStates(1), 1);
         for (int n = 2; n <= 10; n++) {
@@ -252,8 +270,8 @@ public final class BoundaryTest extends Sentences {
     }
 
     private static void addArc() {
-        sentence("Returns its number, which is the number of arcs before; BAD if there is no state from or to, or event "
-            + "is out of range; STATE if event is enabled in from; FULL if there are 24 arcs.");
+        sentence("Returns its number, which is the number of arcs before; BAD if there is no state from or to, or "
+            + "event is out of range; STATE if event is enabled in from; FULL if there are 24 arcs.");
         NetSynthesizer x = new NetSynthesizer();
         x.setStates(10);
         for (int i = 0; i < 24; i++) {
@@ -339,7 +357,11 @@ public final class BoundaryTest extends Sentences {
         due("arc(1, 2): to stays", x.arc(1, 2), 0);
         due("split(0): e is the smallest then", x.split(0), 4);
         due("arc(2, 1)", x.arc(2, 1), 4);
-        due("split(1) with h: a is the smallest", graph("0h0 1h1").split(7), 0);
+        due("split(7): a is the smallest", graph("0h0 1h1").split(7), 0);
+        x = graph("0a0 1a1 2a2");
+        x.dropArc(2);
+        due("split(0) without an arc that was dropped", x.split(0), 1);
+        due("arc(1, 1)", x.arc(1, 1), 1);
 
         sentence("Returns the new event; BAD if event is out of range; STATE if there are fewer than two arcs with it; "
             + "FULL if all events are used.");
@@ -639,7 +661,7 @@ public final class BoundaryTest extends Sentences {
                 due("place(" + p + ", " + what + ")", x.place(p, what), due[p][what]);
             }
         }
-        // Each state s but the last one is a place. It alone parts s from the last one, and its event from eight states.
+        // Each state but the last one is a place. It alone parts it from the last one, and its event from eight states.
         x = graph("0a1 1b2 2c3 3d4 4e5 5f6 6g7 7h8");
         for (int s = 0; s < 8; s++) {
             due("place(" + s + ", 0) of a chain", x.place(s, 0), 1 << s);
